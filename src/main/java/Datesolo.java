@@ -692,7 +692,7 @@ public final class Datesolo {
     }
 
     private static boolean areSoundTogether(long first, long second) {
-        if (first < second != numberOf(first) < numberOf(second)) {
+        if ((first < second) != (numberOf(first) < numberOf(second))) {
             return false;
         }
         if (second < first) {
